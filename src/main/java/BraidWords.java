@@ -587,6 +587,7 @@ public final class BraidWords {
         }
 
         void addAll(Row other) {
+            // Counted ahead of the loop, so that it ends for any two rows.
             int many = other.size();
             for (int place = 0; place < many; place++) {
                 add(other.at(place));
@@ -600,8 +601,11 @@ public final class BraidWords {
         }
 
         void copy(Row other) {
-            clear();
-            addAll(other);
+            size = 0;
+            int many = other.size();
+            for (int place = 0; place < many; place++) {
+                add(other.at(place));
+            }
         }
     }
 }
