@@ -22,11 +22,52 @@ final class Checks {
         }
     }
 
-    /** The call throws just this class (the machine's own are classes below it), and changes nothing. */
+    /**
+     * The call throws just this class (the machine's own are classes below it), and changes nothing.
+     * An object is good for 512 calls alone, so the digest stands for all its letters here.
+     */
     void refused(String what, Class<? extends RuntimeException> due, BraidWords braid, Call call) {
-        List<Integer> before = state(braid);
+        long before = braid.digest();
         due(what + " throws", outcome(call), due);
-        due("the state behind " + what, state(braid), before);
+        due("the digest behind " + what, braid.digest(), before);
+    }
+
+    /** The call on a new object: its answer, or the class that it throws, and what stands then. */
+    void makes(String name, Given given, Given.Call call, Object answer, Given then) {
+        BraidWords braid = given.braid();
+        due(name + " on " + given, outcome(() -> call.on(braid)), answer);
+        stands("behind " + name + " on " + given, braid, then);
+    }
+
+    /** As makes(), of a call that changes nothing. */
+    void tells(String name, Given given, Given.Call call, Object answer) {
+        makes(name, given, call, answer, given);
+    }
+
+    void refuses(String name, Given given, Class<? extends RuntimeException> due, Given.Call call) {
+        makes(name, given, call, due, given);
+    }
+
+    void refusesEach(String name, Given given, Class<? extends RuntimeException> due, int[] wrongs,
+            Given.CallOfOne call) {
+        for (int wrong : wrongs) {
+            refuses(name + " with " + wrong, given, due, braid -> call.on(braid, wrong));
+        }
+    }
+
+    /** All these calls throw, on one object, one behind the other; what stood ahead of the first stands then. */
+    void throwAndStay(Given given, Given.Call... calls) {
+        BraidWords braid = given.braid();
+        for (int at = 0; at < calls.length; at++) {
+            Given.Call call = calls[at];
+            due("call " + at + " on " + given + " throws", outcome(() -> call.on(braid)) instanceof Class, true);
+        }
+        stands("behind calls that throw on " + given, braid, given);
+    }
+
+    void stands(String when, BraidWords braid, Given due) {
+        due("what stands " + when, state(braid), due.state());
+        due("the digest " + when, braid.digest(), due.braid().digest());
     }
 
     static Object outcome(Call call) {
@@ -41,15 +82,17 @@ final class Checks {
         List<Integer> state = new ArrayList<>();
         state.add(braid.count(0));
         for (int word = 0; word <= 1; word++) {
-            state.add(braid.count(1 + word));
-            state.addAll(letters(braid, word));
+            List<Integer> letters = letters(braid, word);
+            state.add(letters.size());
+            state.addAll(letters);
         }
         return state;
     }
 
     static List<Integer> letters(BraidWords braid, int word) {
         List<Integer> letters = new ArrayList<>();
-        for (int place = 0; place < braid.count(1 + word); place++) {
+        int many = braid.count(1 + word);
+        for (int place = 0; place < many; place++) {
             letters.add(braid.letter(word, place));
         }
         return letters;

@@ -33,6 +33,11 @@ final class FaceTests {
 
     private FaceTests() { }
 
+    static void addTo(Tests tests) {
+        tests.add("the face is the document's", FaceTests::theFaceIsTheDocuments);
+        tests.add("no field is seen or shared", FaceTests::noFieldIsSeenOrShared);
+    }
+
     static void theFaceIsTheDocuments(Checks c) {
         Class<?> braid = BraidWords.class;
         c.due("modifiers", braid.getModifiers(), Modifier.PUBLIC | Modifier.FINAL);

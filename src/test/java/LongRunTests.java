@@ -1,18 +1,25 @@
 import java.util.List;
 
-/** Long runs of calls, each answer held against that of the slow model. */
+/** Runs of as many calls as an object is good for, each answer held against that of the slow model. */
 final class LongRunTests {
-    private static final int RUNS = 120;
+    private static final int RUNS = 200;
     private static final int CALLS = 512;
+    /** Three calls tell the counts, and one tells each of 60 letters. */
+    private static final int CALLS_OF_THE_STATE = 63;
 
     private final Checks c;
     private final BraidWords braid = new BraidWords();
     private final BraidModel model = new BraidModel();
     private long seed;
+    private int calls;
 
     private LongRunTests(Checks c, long seed) {
         this.c = c;
         this.seed = seed;
+    }
+
+    static void addTo(Tests tests) {
+        tests.add("long runs answer as the model does", LongRunTests::everyAnswerIsTheModels);
     }
 
     static void everyAnswerIsTheModels(Checks c) {
@@ -22,7 +29,15 @@ final class LongRunTests {
     }
 
     private void run() {
-        for (int call = 0; call < CALLS && c.wrong.isEmpty(); call++) {
+        stepsTo(CALLS - CALLS_OF_THE_STATE);
+        List<Integer> due = new Given(model.ropes, model.words.get(0), model.words.get(1)).state();
+        c.due("what stands behind call " + calls, Checks.state(braid), due);
+        calls += due.size();
+        stepsTo(CALLS);
+    }
+
+    private void stepsTo(int end) {
+        while (calls < end && c.wrong.isEmpty()) {
             step();
         }
     }
@@ -54,9 +69,9 @@ final class LongRunTests {
     }
 
     private void both(String what, Checks.Call ofModel, Checks.Call ofBraid) {
-        Object due = Checks.outcome(ofModel);
-        c.due(what + " with " + model.ropes + " ropes and " + model.words, Checks.outcome(ofBraid), due);
-        c.due("words behind " + what, List.of(Checks.letters(braid, 0), Checks.letters(braid, 1)), model.words);
+        String name = "call " + calls + ", " + what + ", with " + model.ropes + " ropes and " + model.words;
+        c.due(name, Checks.outcome(ofBraid), Checks.outcome(ofModel));
+        calls++;
     }
 
     private void step() {
@@ -71,7 +86,7 @@ final class LongRunTests {
             case 11 -> both("turn", () -> model.turn(w), () -> braid.turn(w));
             case 12 -> both("join", () -> model.join(w), () -> braid.join(w));
             case 13, 14 -> both("swap", () -> model.swap(w, p), () -> braid.swap(w, p));
-            case 15, 16 -> everywhereAbout(w);
+            case 15, 16 -> about(w, p);
             case 17 -> both("insert", () -> model.insert(w, p, l), () -> braid.insert(w, p, l));
             case 18 -> both("cut", () -> model.cut(w), () -> braid.cut(w));
             case 19 -> both("letter", () -> model.letter(w, p), () -> braid.letter(w, p));
@@ -88,18 +103,28 @@ final class LongRunTests {
         }
     }
 
+    /** Mostly one that is refused, so that words grow long. */
     private void setRopes() {
-        if (pick(4) == 0) {
-            int ropes = 1 + pick(8);
-            both("setRopes", () -> model.setRopes(ropes), () -> braid.setRopes(ropes));
-        }
+        int ropes = pick(4) == 0 ? 3 + pick(4) : 1 + 6 * pick(2) + pick(2);
+        both("setRopes", () -> model.setRopes(ropes), () -> braid.setRopes(ropes));
     }
 
-    private void everywhereAbout(int w) {
-        for (int place = -1; place < 31; place++) {
-            int p = place;
-            both("about", () -> model.about(w, p), () -> braid.about(w, p));
+    /** Where three letters can be turned about, if there are such, as they are rare. */
+    private void about(int w, int otherwise) {
+        int there = w == 0 || w == 1 ? placeOfThree(model.words.get(w)) : otherwise;
+        int p = there < 0 || pick(4) == 0 ? otherwise : there;
+        both("about", () -> model.about(w, p), () -> braid.about(w, p));
+    }
+
+    private static int placeOfThree(List<Integer> word) {
+        for (int place = 0; place + 2 < word.size(); place++) {
+            int x = word.get(place);
+            int y = word.get(place + 1);
+            if (word.get(place + 2) == x && Math.abs(x - y) == 1) {
+                return place;
+            }
         }
+        return -1;
     }
 
     private void end(int w) {

@@ -6,6 +6,30 @@ final class PromiseTests {
 
     private PromiseTests() { }
 
+    static void addTo(Tests tests) {
+        tests.add("promise 1: a new object", PromiseTests::promise1NewObject);
+        tests.add("promise 2: setRopes", PromiseTests::promise2SetRopes);
+        tests.add("promise 3: twist", PromiseTests::promise3Twist);
+        tests.add("promise 4: untwist", PromiseTests::promise4Untwist);
+        tests.add("promise 5: turn", PromiseTests::promise5Turn);
+        tests.add("promise 6: join", PromiseTests::promise6Join);
+        tests.add("promise 7: swap", PromiseTests::promise7Swap);
+        tests.add("promise 8: about", PromiseTests::promise8About);
+        tests.add("promise 9: insert", PromiseTests::promise9Insert);
+        tests.add("promise 10: cut", PromiseTests::promise10Cut);
+        tests.add("promise 11: letter", PromiseTests::promise11Letter);
+        tests.add("promise 12: count", PromiseTests::promise12Count);
+        tests.add("promise 13: end", PromiseTests::promise13End);
+        tests.add("promise 14: crosses", PromiseTests::promise14Crosses);
+        tests.add("promise 15: handle", PromiseTests::promise15Handle);
+        tests.add("promise 16: plain", PromiseTests::promise16Plain);
+        tests.add("promise 17: same", PromiseTests::promise17Same);
+        tests.add("promise 18: ahead", PromiseTests::promise18Ahead);
+        tests.add("promise 19: advise", PromiseTests::promise19Advise);
+        tests.add("promise 20: mean", PromiseTests::promise20Mean);
+        tests.add("promise 21: digest", PromiseTests::promise21Digest);
+    }
+
     static void promise1NewObject(Checks c) {
         BraidWords braid = new BraidWords();
         c.due("count(0)", braid.count(0), 3);
