@@ -17,6 +17,7 @@ final class PlainEdgeTests {
                 PlainEdgeTests::promise16TellsThatItIsLostByItsCuts);
         tests.add("promise 16: -9 for each of these, if it is lost: more than 100 letters behind some cut",
                 PlainEdgeTests::promise16TellsThatItIsLostByItsLetters);
+        tests.add("promise 16: Returns this (nothing is changed)", PlainEdgeTests::promise16NothingIsChanged);
         tests.add("promise 16: Throws IndexOutOfBoundsException if word is not 0 to 1",
                 PlainEdgeTests::promise16ThrowsIndexOutOfBoundsIfWordIsNot0To1);
         tests.add("promise 16: Throws IndexOutOfBoundsException if what is not 0 to 3",
@@ -49,6 +50,7 @@ final class PlainEdgeTests {
                 PlainEdgeTests::promise19LostByCutsIsNone);
         tests.add("promise 19: lost ones are none: more than 100 letters behind some cut",
                 PlainEdgeTests::promise19LostByLettersIsNone);
+        tests.add("promise 19: lost ones are none; nothing is changed", PlainEdgeTests::promise19NothingIsChanged);
         tests.add("promise 19: Throws IndexOutOfBoundsException if word is not 0 to 1",
                 PlainEdgeTests::promise19ThrowsIndexOutOfBoundsIfWordIsNot0To1);
         tests.add("promise 19: Throws IllegalStateException if it is lost itself",
@@ -151,6 +153,27 @@ final class PlainEdgeTests {
     private static List<Given> emptyFullAndLost() {
         List<Integer> lost = EdgeWords.CUTS_101.get(0);
         return List.of(Given.empty(3), Given.full(3), new Given(3, lost, lost));
+    }
+
+    static void promise16NothingIsChanged(Checks c) {
+        for (Given given : emptyFullAndLost()) {
+            BraidWords braid = given.braid();
+            for (int what = 0; what <= 3; what++) {
+                for (int word = 0; word <= 1; word++) {
+                    c.due("plain", braid.plain(word, what), given.braid().plain(word, what));
+                    tellsAsOneNeverAsked(c, "plain", braid, given);
+                }
+            }
+            c.stands("behind plain on " + given, braid, given);
+        }
+    }
+
+    /** What a word made in thought leaves behind is seen by no call. */
+    private static void tellsAsOneNeverAsked(Checks c, String behind, BraidWords braid, Given given) {
+        c.due("same() behind " + behind + " on " + given, braid.same(), given.braid().same());
+        c.due("ahead() behind " + behind + " on " + given, braid.ahead(), given.braid().ahead());
+        c.due("handle(0, 2) behind " + behind + " on " + given, braid.handle(0, 2), given.braid().handle(0, 2));
+        c.due("end(1, 2) behind " + behind + " on " + given, braid.end(1, 2), given.braid().end(1, 2));
     }
 
     static void promise16ThrowsIndexOutOfBoundsIfWordIsNot0To1(Checks c) {
@@ -410,6 +433,21 @@ final class PlainEdgeTests {
 
     private static List<Integer> behind(List<Integer> word, int letter) {
         return BraidModel.oneBehindTheOther(word, List.of(letter));
+    }
+
+    static void promise19NothingIsChanged(Checks c) {
+        for (int ropes = 3; ropes <= 6; ropes++) {
+            List<Integer> just = EdgeWords.ADVISE_CUTS_100.get(ropes - 3);
+            List<Integer> lost = EdgeWords.ADVISE_CUTS_101.get(ropes - 3);
+            for (Given given : List.of(Given.empty(ropes), new Given(ropes, just, lost), new Given(ropes, lost, just))) {
+                BraidWords braid = given.braid();
+                for (int word = 0; word <= 1; word++) {
+                    c.due("advise", braid.advise(word), given.braid().advise(word));
+                    tellsAsOneNeverAsked(c, "advise", braid, given);
+                }
+                c.stands("behind advise on " + given, braid, given);
+            }
+        }
     }
 
     static void promise19ThrowsIndexOutOfBoundsIfWordIsNot0To1(Checks c) {
