@@ -9,6 +9,7 @@ public final class AllTests {
 
     private static Map<String, Consumer<Checks>> tests() {
         Tests tests = new Tests();
+        TermsTests.addTo(tests);
         PromiseTests.addTo(tests);
         WordsEdgeTests.addTo(tests);
         MovesEdgeTests.addTo(tests);
@@ -16,6 +17,7 @@ public final class AllTests {
         PlainEdgeTests.addTo(tests);
         FaceTests.addTo(tests);
         LongRunTests.addTo(tests);
+        ReadmeTests.addTo(tests);
         return tests.byName;
     }
 

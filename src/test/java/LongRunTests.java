@@ -1,6 +1,6 @@
 import java.util.List;
 
-/** Runs of as many calls as an object is good for, each answer held against that of the slow model. */
+/** As many calls as an object is good for, each answer held against that of the slow model. */
 final class LongRunTests {
     private static final int RUNS = 200;
     private static final int CALLS = 512;
@@ -20,12 +20,53 @@ final class LongRunTests {
 
     static void addTo(Tests tests) {
         tests.add("long runs answer as the model does", LongRunTests::everyAnswerIsTheModels);
+        tests.add("what it is: An object is used for at most 512 calls: each call answers as its 512th one",
+                LongRunTests::eachCallAnswersAsThe512th);
     }
 
     static void everyAnswerIsTheModels(Checks c) {
         for (int run = 0; run < RUNS && c.wrong.isEmpty(); run++) {
             new LongRunTests(c, run * 7919L + 1).run();
         }
+    }
+
+    interface OfModel {
+        Object on(BraidModel model);
+    }
+
+    static void eachCallAnswersAsThe512th(Checks c) {
+        last(c, "setRopes(4)", braid -> braid.setRopes(4), model -> model.setRopes(4));
+        last(c, "twist(0, -5)", braid -> braid.twist(0, -5), model -> model.twist(0, -5));
+        last(c, "untwist(1)", braid -> braid.untwist(1), model -> model.untwist(1));
+        last(c, "turn(1)", braid -> braid.turn(1), model -> model.turn(1));
+        last(c, "join(0)", braid -> braid.join(0), model -> model.join(0));
+        last(c, "swap(0, 1)", braid -> braid.swap(0, 1), model -> model.swap(0, 1));
+        last(c, "about(1, 1)", braid -> braid.about(1, 1), model -> model.about(1, 1));
+        last(c, "insert(1, 3, 5)", braid -> braid.insert(1, 3, 5), model -> model.insert(1, 3, 5));
+        last(c, "cut(0)", braid -> braid.cut(0), model -> model.cut(0));
+        last(c, "letter(0, 2)", braid -> braid.letter(0, 2), model -> model.letter(0, 2));
+        last(c, "count(3)", braid -> braid.count(3), model -> model.count(3));
+        last(c, "end(0, 0)", braid -> braid.end(0, 0), model -> model.end(0, 0));
+        last(c, "crosses(1, 0, 2)", braid -> braid.crosses(1, 0, 2), model -> model.crosses(1, 0, 2));
+        last(c, "handle(0, 1)", braid -> braid.handle(0, 1), model -> model.handle(0, 1));
+        last(c, "plain(0, 1)", braid -> braid.plain(0, 1), model -> model.plain(0, 1));
+        last(c, "same()", BraidWords::same, BraidModel::same);
+        last(c, "ahead()", BraidWords::ahead, BraidModel::ahead);
+        last(c, "advise(1)", braid -> braid.advise(1), model -> model.advise(1));
+        last(c, "mean()", BraidWords::mean, BraidModel::mean);
+        last(c, "digest()", BraidWords::digest, BraidModel::digest);
+        last(c, "letter(0, 9)", braid -> braid.letter(0, 9), model -> model.letter(0, 9));
+    }
+
+    /** The answer of an object's last call, behind others that change nothing. */
+    private static void last(Checks c, String name, Given.Call ofBraid, OfModel ofModel) {
+        Given given = new Given(6, Checks.word(1, 4, 2, -1, 3), Checks.word(-4, 1, 2, 1, 2, -5));
+        BraidWords braid = given.braid();
+        int made = 1 + given.word0().size() + given.word1().size();
+        for (int call = made; call < CALLS - 1; call++) {
+            braid.plain(call % 2, call % 4);
+        }
+        c.due(name, Checks.outcome(() -> ofBraid.on(braid)), Checks.outcome(() -> ofModel.on(given.model())));
     }
 
     private void run() {
