@@ -434,14 +434,14 @@ public final class BraidWords {
                 return cuts;
             }
             int first = firstOfHandle(thought, last);
-            int letters = thought.size() + moreByCutting(thought, first, last);
-            if (cuts == MOST_CUTS || letters > MOST_LETTERS_IN_THOUGHT) {
+            if (thought.size() + moreByCutting(thought, first, last) > MOST_LETTERS_IN_THOUGHT) {
                 return LOST;
             }
             cutHandle(thought, first, last);
             // No handle ended ahead of the one cut, and what stands ahead of it stays.
             from = first;
         }
+        // A handle was there still behind all cuts allowed; that it is cut, too, is seen by no call.
         return LOST;
     }
 
