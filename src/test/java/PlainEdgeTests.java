@@ -62,8 +62,9 @@ final class PlainEdgeTests {
         tests.add("promise 20: Returns the mean height of all letters of both words",
                 PlainEdgeTests::promise20ReturnsTheMeanHeightOfBothWords);
         tests.add("promise 20: 0 without any", PlainEdgeTests::promise20Returns0WithoutAny);
-        tests.add("promise 21: A number d starts with 1511; for each number x, d becomes d * 31 + x",
-                PlainEdgeTests::promise21DigestsTheNumbersInTheirOrder);
+        tests.add("promise 21: A number d starts with 1511; for each of the following numbers x, d becomes d * 31 + x:"
+                + " what count() tells, in its order; for each word its letters, the ends of all ropes, what handle() tells,"
+                + " what plain() tells; what same() and what ahead() tell", PlainEdgeTests::promise21DigestsTheNumbersInTheirOrder);
         tests.add("promise 21: which wraps around as a 64-bit integer", PlainEdgeTests::promise21WrapsAroundAsA64BitInteger);
         tests.add("promise 21: what plain(), same() and ahead() tell if they are lost",
                 PlainEdgeTests::promise21DigestsWhatIsLost);

@@ -40,7 +40,8 @@ final class WordsEdgeTests {
                 WordsEdgeTests::promise4OfSeveralTheFirstIsThrown);
         tests.add("promise 4: A method that throws an exception changes nothing",
                 WordsEdgeTests::promise4AThrowChangesNothing);
-        tests.add("promise 5: Turns a word round", WordsEdgeTests::promise5TurnsAWordRound);
+        tests.add("promise 5: Turns a word round: its letters from the last one on, each turned round",
+                WordsEdgeTests::promise5TurnsAWordRound);
         tests.add("promise 5: Returns how many letters it has", WordsEdgeTests::promise5ReturnsHowManyLettersItHas);
         tests.add("promise 5: Throws IndexOutOfBoundsException if word is not 0 to 1",
                 WordsEdgeTests::promise5ThrowsIndexOutOfBoundsIfWordIsNot0To1);
